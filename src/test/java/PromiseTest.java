@@ -24,6 +24,7 @@ public final class PromiseTest {
         perform();
         stopsOfPerform();
         undo();
+        undoOfEachAct();
         keepAndRestore();
         boiler();
         machine();
@@ -397,6 +398,12 @@ public final class PromiseTest {
         Expect.due("pressure 84 is not", boilerOf(x, 0), 0, 70, 30, 10, 1);
         due("coal", x.count(1), 20);
         due("burnt", x.count(2), 30);
+        SteamRations justAbove = new SteamRations();
+        justAbove.setFire(0, 5);
+        justAbove.run(4);
+        justAbove.setFire(0, 2);
+        justAbove.run(3);
+        Expect.due("pressure 71 is not safe", boilerOf(justAbove, 0), 0, 74, 30, 10, 1);
         x.run(1);
         Expect.due("a tick of the stop", boilerOf(x, 0), 0, 70, 29, 9, 1);
         x.run(9);
@@ -781,6 +788,51 @@ public final class PromiseTest {
         due("undo of fill", y.boiler(1, 1), 100);
     }
 
+    /** The state before each act is another one, so that each has to record its own. */
+    private static void undoOfEachAct() {
+        SteamRations x = withWaits();
+        x.setFire(1, 3);
+        x.undo();
+        due("undo of setFire", x.boiler(1, 0), 0);
+        x.queue(2);
+        x.fill(1, 9);
+        x.undo();
+        due("undo of fill", 1000 * x.boiler(1, 1) + x.count(6), 100_001);
+        x.queue(0);
+        x.setRation(9);
+        x.undo();
+        due("undo of setRation", 100 * x.count(4) + x.count(6), 4002);
+        x.fill(0, 1);
+        x.queue(1);
+        x.undo();
+        Expect.due("undo of queue", new int[] {x.count(6), x.boiler(0, 1)}, 2, 97);
+        x.fill(0, 1);
+        x.unqueue(0);
+        x.undo();
+        Expect.due("undo of unqueue", new int[] {x.line(0), x.line(1), x.boiler(0, 1)}, 2, 0, 98);
+        x.fill(0, 1);
+        x.takeOut(0);
+        x.undo();
+        Expect.due("undo of takeOut", machineOf(x, 0), 2, 8, 1);
+        Expect.due("undo of takeOut", new int[] {x.count(10), x.count(13), x.boiler(0, 1)}, 0, 1, 99);
+        x.fill(0, 1);
+        x.run(1);
+        due("waited again", x.machine(0, 2), 2);
+        x.undo();
+        Expect.due("undo of run", new int[] {x.machine(0, 2), x.count(13), x.boiler(0, 1)}, 1, 1, 100);
+    }
+
+    /** A linen in machine 0 has waited once, with 8 ticks left; 96 water in boiler 0, no fire. */
+    private static SteamRations withWaits() {
+        SteamRations x = withPressure11();
+        x.setFire(0, 4);
+        x.start(0, 2);
+        x.setFire(0, 0);
+        x.run(2);
+        Expect.due("a load that waited", machineOf(x, 0), 2, 8, 1);
+        return x;
+    }
+
     private static void keepAndRestore() {
         SteamRations x = withPressure11();
         due("keep()", x.keep(), 1);
@@ -902,6 +954,11 @@ public final class PromiseTest {
         due("spoiled in 3 ticks", spoils.ifFires(0, 0, 3, 1), 0);
         due("spoiled in 4 ticks", spoils.ifFires(0, 0, 4, 1), 1);
         due("spoiled with fire 4", spoils.ifFires(4, 0, 4, 1), 0);
+        spoils.setFire(0, 0);
+        spoils.run(4);
+        due("a spoiled one", spoils.count(9), 1);
+        due("spoiled ones before do not count", spoils.ifFires(0, 0, 9, 1), 0);
+        due("coal burnt before does not count", spoils.ifFires(1, 0, 9, 2), 9);
         SteamRations stopped = withStop();
         due("a stopped boiler burns nothing in its stop", stopped.ifFires(5, 0, 10, 2), 0);
         due("and then it does", stopped.ifFires(5, 0, 11, 2), 5);
