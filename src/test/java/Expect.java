@@ -3,8 +3,14 @@ import java.util.Arrays;
 /** Collects the answers that are not as due, for the tests of this folder. */
 final class Expect {
     private static int wrong = 0;
+    private static String about = "";
 
     private Expect() {
+    }
+
+    /** What is said from here on is said of this; "" ends it. */
+    static void about(String sentence) {
+        about = sentence.isEmpty() ? "" : "[" + sentence + "] ";
     }
 
     static void due(String call, long got, long want) {
@@ -21,7 +27,7 @@ final class Expect {
 
     static void say(String fault) {
         wrong++;
-        System.out.println(fault);
+        System.out.println(about + fault);
     }
 
     static void end() {

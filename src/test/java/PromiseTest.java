@@ -1,7 +1,7 @@
 /** For each promise of the document: ordinary calls, the edges that it names, and wrong arguments. */
 public final class PromiseTest {
-    private static final int LOW = Integer.MIN_VALUE;
-    private static final int HIGH = Integer.MAX_VALUE;
+    private static final int LOW = Laundries.LOW;
+    private static final int HIGH = Laundries.HIGH;
 
     public static void main(String[] args) {
         newObject();
@@ -40,75 +40,6 @@ public final class PromiseTest {
         Expect.due(call, got, want);
     }
 
-    private static int[] boilerOf(SteamRations x, int boiler) {
-        int[] all = new int[5];
-        for (int what = 0; what < 5; what++) {
-            all[what] = x.boiler(boiler, what);
-        }
-        return all;
-    }
-
-    private static int[] machineOf(SteamRations x, int machine) {
-        return new int[] {x.machine(machine, 0), x.machine(machine, 1), x.machine(machine, 2)};
-    }
-
-    private static int[] countsOf(SteamRations x) {
-        int[] all = new int[16];
-        for (int what = 0; what < 16; what++) {
-            all[what] = x.count(what);
-        }
-        return all;
-    }
-
-    private static int[] loadsInLine(SteamRations x) {
-        int[] all = new int[x.count(6)];
-        for (int place = 0; place < all.length; place++) {
-            all[place] = x.line(place);
-        }
-        return all;
-    }
-
-    private static void text(SteamRations x, String text) {
-        x.clearText();
-        for (int i = 0; i < text.length(); i++) {
-            due("type, sign " + i + " of " + text, x.type(text.charAt(i)), i + 1);
-        }
-    }
-
-    private static int performed(SteamRations x, String text) {
-        text(x, text);
-        return x.perform();
-    }
-
-    /** Pressure 11 in boiler 0 and no fire, 46 coal, 96 water, after 1 tick. */
-    private static SteamRations withPressure11() {
-        SteamRations x = new SteamRations();
-        x.setFire(0, 4);
-        x.run(1);
-        x.setFire(0, 0);
-        return x;
-    }
-
-    /** Boiler 0 has just stopped for safety, with 20 coal left, after 6 ticks. */
-    private static SteamRations withStop() {
-        SteamRations x = new SteamRations();
-        x.setFire(0, 5);
-        x.run(6);
-        return x;
-    }
-
-    /** Pressure 55 in boiler 0 and 40 in boiler 1, no fires, 15 coal. */
-    private static SteamRations withPressure95() {
-        SteamRations x = new SteamRations();
-        x.setFire(0, 4);
-        x.setFire(1, 3);
-        x.run(5);
-        x.setFire(0, 0);
-        x.setFire(1, 0);
-        due("pressure for tests", x.count(12), 95);
-        return x;
-    }
-
     private static void newObject() {
         SteamRations x = new SteamRations();
         SteamRations other = new SteamRations();
@@ -117,12 +48,12 @@ public final class PromiseTest {
         other.run(60);
         other.type('f');
         other.keep();
-        Expect.due("new, counts", countsOf(x), 0, 50, 0, 0, 40, 0, 0, 0, 0, 0, 0, 0, 0, 0, 0, 0);
+        Expect.due("new, counts", Laundries.counts(x), 0, 50, 0, 0, 40, 0, 0, 0, 0, 0, 0, 0, 0, 0, 0, 0);
         for (int boiler = 0; boiler < 2; boiler++) {
-            Expect.due("new, boiler", boilerOf(x, boiler), 0, 100, 0, 0, 0);
+            Expect.due("new, boiler", Laundries.boiler(x, boiler), 0, 100, 0, 0, 0);
         }
         for (int machine = 0; machine < 4; machine++) {
-            Expect.due("new, machine", machineOf(x, machine), -5, 0, 0);
+            Expect.due("new, machine", Laundries.machine(x, machine), -5, 0, 0);
         }
         due("new, line(0)", x.line(0), -5);
         due("new, doneIn()", x.doneIn(), 0);
@@ -151,7 +82,7 @@ public final class PromiseTest {
         due("setFire(1, 6)", x.setFire(1, 6), -2);
         due("setFire(1, HIGH)", x.setFire(1, HIGH), -2);
         due("errors change nothing", x.boiler(1, 0), 1);
-        SteamRations y = withStop();
+        SteamRations y = Laundries.withStop();
         due("stopped, setFire(0, 6)", y.setFire(0, 6), -2);
         due("stopped, setFire(0, 0): the error goes ahead of NONE", y.setFire(0, 0), -4);
         due("stopped, setFire(0, 1)", y.setFire(0, 1), -4);
@@ -180,7 +111,7 @@ public final class PromiseTest {
         due("fill(2, 0)", x.fill(2, 0), -1);
         due("fill(-1, 1)", x.fill(-1, 1), -1);
         due("two acts", x.count(14), 2);
-        due("a boiler without water, fill(0, 200)", withoutWater().fill(0, 200), 200);
+        due("a boiler without water, fill(0, 200)", Laundries.withoutWater().fill(0, 200), 200);
     }
 
     private static void setRation() {
@@ -197,26 +128,26 @@ public final class PromiseTest {
     }
 
     private static void start() {
-        SteamRations x = withPressure95();
+        SteamRations x = Laundries.withPressure95();
         due("start(3, 0)", x.start(3, 0), 4);
         due("start(3, 0)", x.start(3, 0), -11);
         due("start(0, 1)", x.start(0, 1), 6);
         due("count(7)", x.count(7), 2);
-        Expect.due("machine 3", machineOf(x, 3), 0, 4, 0);
-        Expect.due("machine 0", machineOf(x, 0), 1, 6, 0);
-        Expect.due("machine 1", machineOf(x, 1), -5, 0, 0);
+        Expect.due("machine 3", Laundries.machine(x, 3), 0, 4, 0);
+        Expect.due("machine 0", Laundries.machine(x, 0), 1, 6, 0);
+        Expect.due("machine 1", Laundries.machine(x, 1), -5, 0, 0);
         due("start(4, 0)", x.start(4, 0), -1);
         due("start(-1, 0)", x.start(-1, 0), -1);
         due("start(1, 3)", x.start(1, 3), -1);
         due("start(1, -1)", x.start(1, -1), -1);
         due("start(3, 3)", x.start(3, 3), -1);
         due("start(HIGH, LOW)", x.start(HIGH, LOW), -1);
-        SteamRations y = withPressure95();
+        SteamRations y = Laundries.withPressure95();
         due("start(2, 2)", y.start(2, 2), 9);
     }
 
     private static void reasons() {
-        SteamRations x = withPressure11();
+        SteamRations x = Laundries.withPressure11();
         due("pressure 11, reason(0)", x.reason(0), 0);
         due("pressure 11, reason(1)", x.reason(1), 3);
         due("pressure 11, start(0, 1)", x.start(0, 1), -13);
@@ -229,7 +160,7 @@ public final class PromiseTest {
         due("reason(3)", x.reason(3), -1);
         due("reason(-1)", x.reason(-1), -1);
         due("reason(LOW)", x.reason(LOW), -1);
-        SteamRations full = withPressure95();
+        SteamRations full = Laundries.withPressure95();
         for (int machine = 0; machine < 4; machine++) {
             due("start of a wool", full.start(machine, 0), 4);
         }
@@ -247,7 +178,7 @@ public final class PromiseTest {
 
     /** Pressure 11, no fire: a second wool would let the first one wait, in the 3rd tick. */
     private static void otherLoadsWouldWait() {
-        SteamRations x = withPressure11();
+        SteamRations x = Laundries.withPressure11();
         due("start(0, 0)", x.start(0, 0), 4);
         due("reason(0) of a second one", x.reason(0), 3);
         due("start(1, 0)", x.start(1, 0), -13);
@@ -296,7 +227,7 @@ public final class PromiseTest {
 
     /** Linen and cotton together need more than the pressure of 93, but the cotton is in the line. */
     private static void theLineIsNoPartOfTheTrial() {
-        SteamRations x = withPressure95();
+        SteamRations x = Laundries.withPressure95();
         x.run(1);
         due("pressure", x.count(12), 93);
         x.queue(1);
@@ -317,7 +248,7 @@ public final class PromiseTest {
         due("queue(3)", x.queue(3), -1);
         due("queue(-1)", x.queue(-1), -1);
         due("queue(HIGH)", x.queue(HIGH), -1);
-        Expect.due("line", loadsInLine(x), 0, 1, 2, 0, 1, 2, 0, 1, 2, 0, 1, 2);
+        Expect.due("line", Laundries.line(x), 0, 1, 2, 0, 1, 2, 0, 1, 2, 0, 1, 2);
         due("count(6)", x.count(6), 12);
         due("none is started without a tick", x.count(7), 0);
     }
@@ -334,14 +265,14 @@ public final class PromiseTest {
         due("unqueue(11)", x.unqueue(11), 2);
         due("unqueue(11)", x.unqueue(11), -1);
         due("unqueue(1)", x.unqueue(1), 1);
-        Expect.due("line", loadsInLine(x), 0, 2, 0, 1, 2, 0, 1, 2, 0, 1);
+        Expect.due("line", Laundries.line(x), 0, 2, 0, 1, 2, 0, 1, 2, 0, 1);
         due("unqueue(0)", x.unqueue(0), 0);
         due("line(0)", x.line(0), 2);
         due("count(10)", x.count(10), 0);
     }
 
     private static void takeOut() {
-        SteamRations x = withPressure95();
+        SteamRations x = Laundries.withPressure95();
         x.start(1, 2);
         x.run(2);
         due("takeOut(0)", x.takeOut(0), -4);
@@ -349,7 +280,7 @@ public final class PromiseTest {
         due("takeOut(-1)", x.takeOut(-1), -1);
         due("takeOut(1)", x.takeOut(1), 7);
         due("takeOut(1)", x.takeOut(1), -4);
-        Expect.due("machine 1", machineOf(x, 1), -5, 0, 0);
+        Expect.due("machine 1", Laundries.machine(x, 1), -5, 0, 0);
         due("count(10)", x.count(10), 1);
         due("count(8)", x.count(8), 0);
         due("count(9)", x.count(9), 0);
@@ -367,7 +298,7 @@ public final class PromiseTest {
         due("count(14)", x.count(14), 0);
         due("run(1)", x.run(1), 0);
         due("count(0)", x.count(0), 1);
-        SteamRations y = withPressure95();
+        SteamRations y = Laundries.withPressure95();
         y.start(0, 0);
         y.start(1, 0);
         y.start(2, 1);
@@ -393,9 +324,9 @@ public final class PromiseTest {
         SteamRations x = new SteamRations();
         x.setFire(0, 5);
         x.run(5);
-        Expect.due("pressure 70 is safe", boilerOf(x, 0), 5, 75, 70, 0, 0);
+        Expect.due("pressure 70 is safe", Laundries.boiler(x, 0), 5, 75, 70, 0, 0);
         x.run(1);
-        Expect.due("pressure 84 is not", boilerOf(x, 0), 0, 70, 30, 10, 1);
+        Expect.due("pressure 84 is not", Laundries.boiler(x, 0), 0, 70, 30, 10, 1);
         due("coal", x.count(1), 20);
         due("burnt", x.count(2), 30);
         SteamRations justAbove = new SteamRations();
@@ -403,16 +334,16 @@ public final class PromiseTest {
         justAbove.run(4);
         justAbove.setFire(0, 2);
         justAbove.run(3);
-        Expect.due("pressure 71 is not safe", boilerOf(justAbove, 0), 0, 74, 30, 10, 1);
+        Expect.due("pressure 71 is not safe", Laundries.boiler(justAbove, 0), 0, 74, 30, 10, 1);
         x.run(1);
-        Expect.due("a tick of the stop", boilerOf(x, 0), 0, 70, 29, 9, 1);
+        Expect.due("a tick of the stop", Laundries.boiler(x, 0), 0, 70, 29, 9, 1);
         x.run(9);
-        Expect.due("the stop ends", boilerOf(x, 0), 0, 70, 20, 0, 1);
+        Expect.due("the stop ends", Laundries.boiler(x, 0), 0, 70, 20, 0, 1);
         x.setFire(0, 5);
         x.setFire(1, 5);
         x.run(2);
         due("coal goes to both", x.count(1), 0);
-        Expect.due("boiler 1", boilerOf(x, 1), 5, 90, 28, 0, 0);
+        Expect.due("boiler 1", Laundries.boiler(x, 1), 5, 90, 28, 0, 0);
         x.run(1);
         Expect.due("fires go out", new int[] {x.boiler(0, 0), x.boiler(1, 0)}, 0, 0);
         SteamRations y = new SteamRations();
@@ -474,10 +405,10 @@ public final class PromiseTest {
     }
 
     private static void steamOfStoppedBoilers() {
-        SteamRations x = withStop();
+        SteamRations x = Laundries.withStop();
         due("the steam of a stopped boiler, start(0, 0)", x.start(0, 0), 4);
         x.run(1);
-        Expect.due("can be taken", boilerOf(x, 0), 0, 70, 27, 9, 1);
+        Expect.due("can be taken", Laundries.boiler(x, 0), 0, 70, 27, 9, 1);
         SteamRations y = new SteamRations();
         y.setFire(0, 2);
         y.setFire(1, 2);
@@ -537,57 +468,57 @@ public final class PromiseTest {
     }
 
     private static void loadsInTicks() {
-        SteamRations x = withPressure11();
+        SteamRations x = Laundries.withPressure11();
         x.setFire(0, 4);
         due("start(0, 2)", x.start(0, 2), 9);
         x.setFire(0, 0);
         x.run(1);
-        Expect.due("worked", machineOf(x, 0), 2, 8, 0);
+        Expect.due("worked", Laundries.machine(x, 0), 2, 8, 0);
         due("pressure", x.count(12), 4);
         x.run(1);
-        Expect.due("waited", machineOf(x, 0), 2, 8, 1);
+        Expect.due("waited", Laundries.machine(x, 0), 2, 8, 1);
         due("nothing is taken", x.count(12), 3);
         x.setFire(0, 2);
         x.run(1);
-        Expect.due("worked again", machineOf(x, 0), 2, 7, 1);
+        Expect.due("worked again", Laundries.machine(x, 0), 2, 7, 1);
         x.setFire(0, 0);
         x.run(1);
-        Expect.due("waited twice in all", machineOf(x, 0), 2, 7, 2);
+        Expect.due("waited twice in all", Laundries.machine(x, 0), 2, 7, 2);
         due("count(9)", x.count(9), 0);
         x.run(1);
-        Expect.due("spoiled", machineOf(x, 0), -5, 0, 0);
+        Expect.due("spoiled", Laundries.machine(x, 0), -5, 0, 0);
         due("count(9)", x.count(9), 1);
         due("count(8)", x.count(8), 0);
         due("count(11)", x.count(11), 0);
         due("count(13)", x.count(13), 3);
         due("count(7)", x.count(7), 1);
-        SteamRations y = withPressure95();
+        SteamRations y = Laundries.withPressure95();
         y.start(0, 2);
         y.run(8);
-        Expect.due("9 ticks", machineOf(y, 0), 2, 1, 0);
+        Expect.due("9 ticks", Laundries.machine(y, 0), 2, 1, 0);
         y.run(1);
         due("worth", y.count(11), 9);
     }
 
     private static void lineInTicks() {
-        SteamRations x = withPressure11();
+        SteamRations x = Laundries.withPressure11();
         x.queue(1);
         x.queue(0);
         x.run(1);
         due("the first one can't be started, the second one waits", x.count(7), 0);
-        SteamRations y = withPressure95();
+        SteamRations y = Laundries.withPressure95();
         y.start(0, 0);
         y.queue(1);
         y.queue(0);
         y.run(1);
-        Expect.due("one in a tick, in the lowest empty machine", machineOf(y, 1), 1, 6, 0);
-        Expect.due("line", loadsInLine(y), 0);
+        Expect.due("one in a tick, in the lowest empty machine", Laundries.machine(y, 1), 1, 6, 0);
+        Expect.due("line", Laundries.line(y), 0);
         y.run(1);
-        Expect.due("it begins in the next tick", machineOf(y, 1), 1, 5, 0);
-        Expect.due("the next one", machineOf(y, 2), 0, 4, 0);
+        Expect.due("it begins in the next tick", Laundries.machine(y, 1), 1, 5, 0);
+        Expect.due("the next one", Laundries.machine(y, 2), 0, 4, 0);
         due("count(7)", y.count(7), 3);
         due("count(6)", y.count(6), 0);
-        SteamRations z = withPressure95();
+        SteamRations z = Laundries.withPressure95();
         for (int machine = 0; machine < 4; machine++) {
             z.start(machine, 0);
         }
@@ -595,7 +526,7 @@ public final class PromiseTest {
         z.run(3);
         due("no empty machine", z.count(6), 1);
         due("run(1)", z.run(1), 4);
-        Expect.due("a machine is empty in the tick in which its load is washed", machineOf(z, 0), 0, 4, 0);
+        Expect.due("a machine is empty in the tick in which its load is washed", Laundries.machine(z, 0), 0, 4, 0);
     }
 
     private static void type() {
@@ -612,11 +543,11 @@ public final class PromiseTest {
     private static void clearText() {
         SteamRations x = new SteamRations();
         due("clearText()", x.clearText(), 0);
-        text(x, "l0,l1");
+        Laundries.text(x, "l0,l1");
         due("clearText()", x.clearText(), 5);
         due("clearText()", x.clearText(), 0);
         due("clearText is no act", x.count(14), 0);
-        text(x, "l2");
+        Laundries.text(x, "l2");
         due("perform()", x.perform(), 1);
         due("the text was l2 alone", x.line(0), 2);
         x.undo();
@@ -626,7 +557,7 @@ public final class PromiseTest {
     private static void faultsOfTexts() {
         String[] ends = {"", "f", "f0", "f0:", "w", "w1", "w1:", "m", "m3", "m3:", "l", "t", "l0,", "t200,", "t1,f1"};
         for (String text : ends) {
-            due("perform() of " + text, performed(new SteamRations(), text), -100 - text.length());
+            due("perform() of " + text, Laundries.performed(new SteamRations(), text), -100 - text.length());
         }
         fault("x", 0);
         fault(",", 0);
@@ -669,82 +600,69 @@ public final class PromiseTest {
         fault("l0;l0", 2);
         fault("l\u0130", 1);
         fault("\u016c0", 0);
-        due("all 80 signs", performed(new SteamRations(), "l0,".repeat(26) + "l"), -179);
-        due("80 signs and a fault", performed(new SteamRations(), "t1,".repeat(26) + "t0"), -179);
-        due("80 signs, no fault", performed(new SteamRations(), "t1,".repeat(26) + "t9"), 27);
-        due("80 signs, a comma last", performed(new SteamRations(), "t10," + "t1,".repeat(25) + ","), -179);
+        due("all 80 signs", Laundries.performed(new SteamRations(), "l0,".repeat(26) + "l"), -179);
+        due("80 signs and a fault", Laundries.performed(new SteamRations(), "t1,".repeat(26) + "t0"), -179);
+        due("80 signs, no fault", Laundries.performed(new SteamRations(), "t1,".repeat(26) + "t9"), 27);
+        due("80 signs, a comma last", Laundries.performed(new SteamRations(), "t10," + "t1,".repeat(25) + ","), -179);
     }
 
     private static void fault(String text, int place) {
         SteamRations x = new SteamRations();
-        due("perform() of " + text, performed(x, text), -100 - place);
+        due("perform() of " + text, Laundries.performed(x, text), -100 - place);
         due("a text with a fault does nothing", x.count(0) + x.count(6) + x.count(14), 0);
         due("and is no stop", x.stopped(0), -5);
     }
 
     private static void perform() {
         SteamRations x = new SteamRations();
-        due("perform()", performed(x, "f0:5,f1:3,w0:100,w1:7,l2,t2,l1,l0"), 8);
+        due("perform()", Laundries.performed(x, "f0:5,f1:3,w0:100,w1:7,l2,t2,l1,l0"), 8);
         due("fires", 10 * x.boiler(0, 0) + x.boiler(1, 0), 53);
         Expect.due("waters", new int[] {x.boiler(0, 1), x.boiler(1, 1)}, 190, 101);
         due("ticks", x.count(0), 2);
         due("started from the line", x.machine(0, 0), 2);
-        Expect.due("line", loadsInLine(x), 1, 0);
+        Expect.due("line", Laundries.line(x), 1, 0);
         due("one act", x.count(14), 1);
         due("the text stays", x.count(15), 33);
         due("undo()", x.undo(), 0);
-        Expect.due("all is undone", countsOf(x), 0, 50, 0, 0, 40, 0, 0, 0, 0, 0, 0, 0, 0, 0, 0, 33);
-        due("perform() of NONE alone", performed(x, "f0:0,f1:0"), 2);
+        Expect.due("all is undone", Laundries.counts(x), 0, 50, 0, 0, 40, 0, 0, 0, 0, 0, 0, 0, 0, 0, 0, 33);
+        due("perform() of NONE alone", Laundries.performed(x, "f0:0,f1:0"), 2);
         due("is an act", x.count(14), 1);
         due("no stop", x.stopped(1), -5);
         SteamRations y = new SteamRations();
-        due("perform()", performed(y, "f0:4,t1,m3:0,m0:0,t3"), 5);
-        Expect.due("machine 3", machineOf(y, 3), 0, 1, 0);
-        due("perform()", performed(y, "t1,t20,t200"), 3);
+        due("perform()", Laundries.performed(y, "f0:4,t1,m3:0,m0:0,t3"), 5);
+        Expect.due("machine 3", Laundries.machine(y, 3), 0, 1, 0);
+        due("perform()", Laundries.performed(y, "t1,t20,t200"), 3);
         due("ticks", y.count(0), 225);
-        due("the greatest water", performed(withoutWater(), "w0:200"), 1);
-        due("27 orders", performed(new SteamRations(), "t1,".repeat(26) + "t1"), 27);
-    }
-
-    /** Boiler 0 has no water. */
-    private static SteamRations withoutWater() {
-        SteamRations x = new SteamRations();
-        for (int i = 0; i < 10; i++) {
-            x.setFire(0, 5);
-            x.run(2);
-            x.setFire(0, 0);
-            x.run(58);
-        }
-        due("water", x.boiler(0, 1), 0);
-        return x;
+        due("the greatest water", Laundries.performed(Laundries.withoutWater(), "w0:200"), 1);
+        due("27 orders", Laundries.performed(new SteamRations(), "t1,".repeat(26) + "t1"), 27);
     }
 
     private static void stopsOfPerform() {
         SteamRations x = new SteamRations();
         x.setRation(7);
-        due("perform()", performed(x, "f0:3,l1,t9,w1:50,w1:51"), -4);
+        due("perform()", Laundries.performed(x, "f0:3,l1,t9,w1:50,w1:51"), -4);
         Expect.due("stopped", new int[] {x.stopped(0), x.stopped(1)}, 4, -3);
-        Expect.due("nothing is done", countsOf(x), 0, 50, 0, 0, 7, 0, 0, 0, 0, 0, 0, 0, 0, 0, 1, 22);
-        Expect.due("nothing is done", boilerOf(x, 0), 0, 100, 0, 0, 0);
+        Expect.due("nothing is done", Laundries.counts(x), 0, 50, 0, 0, 7, 0, 0, 0, 0, 0, 0, 0, 0, 0, 1, 22);
+        Expect.due("nothing is done", Laundries.boiler(x, 0), 0, 100, 0, 0, 0);
         due("stopped(2)", x.stopped(2), -2);
         due("stopped(-1)", x.stopped(-1), -2);
-        due("perform()", performed(x, "f0:0,m0:0"), -4);
+        due("perform()", Laundries.performed(x, "f0:0,m0:0"), -4);
         Expect.due("stopped", new int[] {x.stopped(0), x.stopped(1)}, 1, -12);
         x.undo();
         due("a stop is not undone", x.stopped(1), -12);
-        due("perform() of a fault", performed(x, "f0:6"), -103);
-        due("perform() of one that goes", performed(x, "l0"), 1);
+        due("perform() of a fault", Laundries.performed(x, "f0:6"), -103);
+        due("perform() of one that goes", Laundries.performed(x, "l0"), 1);
         Expect.due("the latest stop stays", new int[] {x.stopped(0), x.stopped(1)}, 1, -12);
-        due("perform()", performed(x, "f0:5,t6,f0:1"), -4);
+        due("perform()", Laundries.performed(x, "f0:5,t6,f0:1"), -4);
         Expect.due("stopped", new int[] {x.stopped(0), x.stopped(1)}, 2, -4);
-        due("perform()", performed(x, "f0:4,t1,m1:2,m1:2"), -4);
+        due("perform()", Laundries.performed(x, "f0:4,t1,m1:2,m1:2"), -4);
         Expect.due("stopped", new int[] {x.stopped(0), x.stopped(1)}, 3, -11);
         x.clearText();
-        due("a line of 12", performed(x, "l0,l0,l0,l0,l0,l0,l0,l0,l0,l0,l0"), 11);
-        due("perform()", performed(x, "l0"), -4);
+        due("a line of 12", Laundries.performed(x, "l0,l0,l0,l0,l0,l0,l0,l0,l0,l0,l0"), 11);
+        due("perform()", Laundries.performed(x, "l0"), -4);
         Expect.due("stopped", new int[] {x.stopped(0), x.stopped(1)}, 0, -3);
         SteamRations y = new SteamRations();
-        text(y, "t200,t200,t200,t200,t200,t200,t200,t200,t200,t200,t200,t200,t200,t200,t200,t200");
+        Laundries.text(y, "t200,t200,t200,t200,t200,t200,t200,t200,t200,t200,t200,t200,t200,t200,t200,t200");
         for (int i = 0; i < 31; i++) {
             due("perform()", y.perform(), 16);
         }
@@ -767,19 +685,19 @@ public final class PromiseTest {
         due("the oldest ones are dropped", x.count(4), 1);
         due("undo()", x.undo(), -5);
         due("count(4)", x.count(4), 1);
-        SteamRations y = withStop();
+        SteamRations y = Laundries.withStop();
         y.fill(1, 9);
         y.queue(2);
         y.start(2, 0);
-        int[] counts = countsOf(y);
-        int[] boiler = boilerOf(y, 0);
+        int[] counts = Laundries.counts(y);
+        int[] boiler = Laundries.boiler(y, 0);
         y.run(77);
         y.undo();
         counts[14] = 3;
-        Expect.due("undo of a run", countsOf(y), counts);
-        Expect.due("undo of a run", boilerOf(y, 0), boiler);
-        Expect.due("undo of a run", machineOf(y, 2), 0, 4, 0);
-        Expect.due("undo of a run", loadsInLine(y), 2);
+        Expect.due("undo of a run", Laundries.counts(y), counts);
+        Expect.due("undo of a run", Laundries.boiler(y, 0), boiler);
+        Expect.due("undo of a run", Laundries.machine(y, 2), 0, 4, 0);
+        Expect.due("undo of a run", Laundries.line(y), 2);
         y.undo();
         due("undo of a start", y.count(7), 0);
         y.undo();
@@ -790,7 +708,7 @@ public final class PromiseTest {
 
     /** The state before each act is another one, so that each has to record its own. */
     private static void undoOfEachAct() {
-        SteamRations x = withWaits();
+        SteamRations x = Laundries.withWaits();
         x.setFire(1, 3);
         x.undo();
         due("undo of setFire", x.boiler(1, 0), 0);
@@ -813,7 +731,7 @@ public final class PromiseTest {
         x.fill(0, 1);
         x.takeOut(0);
         x.undo();
-        Expect.due("undo of takeOut", machineOf(x, 0), 2, 8, 1);
+        Expect.due("undo of takeOut", Laundries.machine(x, 0), 2, 8, 1);
         Expect.due("undo of takeOut", new int[] {x.count(10), x.count(13), x.boiler(0, 1)}, 0, 1, 99);
         x.fill(0, 1);
         x.run(1);
@@ -822,19 +740,8 @@ public final class PromiseTest {
         Expect.due("undo of run", new int[] {x.machine(0, 2), x.count(13), x.boiler(0, 1)}, 1, 1, 100);
     }
 
-    /** A linen in machine 0 has waited once, with 8 ticks left; 96 water in boiler 0, no fire. */
-    private static SteamRations withWaits() {
-        SteamRations x = withPressure11();
-        x.setFire(0, 4);
-        x.start(0, 2);
-        x.setFire(0, 0);
-        x.run(2);
-        Expect.due("a load that waited", machineOf(x, 0), 2, 8, 1);
-        return x;
-    }
-
     private static void keepAndRestore() {
-        SteamRations x = withPressure11();
+        SteamRations x = Laundries.withPressure11();
         due("keep()", x.keep(), 1);
         due("keep is no act", x.count(14), 3);
         x.start(1, 0);
@@ -868,11 +775,11 @@ public final class PromiseTest {
     }
 
     private static void boiler() {
-        SteamRations x = withStop();
+        SteamRations x = Laundries.withStop();
         x.setFire(1, 2);
         x.run(1);
-        Expect.due("boiler 0", boilerOf(x, 0), 0, 70, 29, 9, 1);
-        Expect.due("boiler 1", boilerOf(x, 1), 2, 98, 5, 0, 0);
+        Expect.due("boiler 0", Laundries.boiler(x, 0), 0, 70, 29, 9, 1);
+        Expect.due("boiler 1", Laundries.boiler(x, 1), 2, 98, 5, 0, 0);
         due("boiler(2, 5)", x.boiler(2, 5), -1);
         due("boiler(-1, 0)", x.boiler(-1, 0), -1);
         due("boiler(0, 5)", x.boiler(0, 5), -2);
@@ -881,11 +788,11 @@ public final class PromiseTest {
     }
 
     private static void machine() {
-        SteamRations x = withPressure11();
+        SteamRations x = Laundries.withPressure11();
         x.start(2, 0);
         x.run(1);
-        Expect.due("machine 2", machineOf(x, 2), 0, 3, 0);
-        Expect.due("machine 3", machineOf(x, 3), -5, 0, 0);
+        Expect.due("machine 2", Laundries.machine(x, 2), 0, 3, 0);
+        Expect.due("machine 3", Laundries.machine(x, 3), -5, 0, 0);
         due("machine(4, 3)", x.machine(4, 3), -1);
         due("machine(-1, 0)", x.machine(-1, 0), -1);
         due("machine(2, 3)", x.machine(2, 3), -2);
@@ -907,7 +814,7 @@ public final class PromiseTest {
     }
 
     private static void doneIn() {
-        SteamRations x = withPressure11();
+        SteamRations x = Laundries.withPressure11();
         due("doneIn()", x.doneIn(), 0);
         x.start(0, 0);
         due("a wool, doneIn()", x.doneIn(), 4);
@@ -916,11 +823,11 @@ public final class PromiseTest {
         due("it changes nothing", x.machine(0, 1), 1);
         x.run(1);
         due("doneIn()", x.doneIn(), 0);
-        SteamRations y = withPressure95();
+        SteamRations y = Laundries.withPressure95();
         y.queue(0);
         y.queue(0);
         due("started in ticks 1 and 2, washed in 5 and 6", y.doneIn(), 6);
-        SteamRations z = withPressure11();
+        SteamRations z = Laundries.withPressure11();
         z.setFire(0, 4);
         z.start(0, 2);
         z.setFire(0, 0);
@@ -932,7 +839,7 @@ public final class PromiseTest {
     }
 
     private static void ifFires() {
-        SteamRations x = withPressure11();
+        SteamRations x = Laundries.withPressure11();
         x.queue(0);
         due("no fires, washed", x.ifFires(0, 0, 60, 0), 0);
         due("fire 5, coal of 3 ticks", x.ifFires(5, 0, 3, 2), 15);
@@ -942,13 +849,13 @@ public final class PromiseTest {
         due("fires 5 and 0, washed in 4 ticks", x.ifFires(5, 0, 4, 0), 0);
         due("fires 5 and 0, washed in 5 ticks", x.ifFires(5, 0, 5, 0), 1);
         due("spoiled", x.ifFires(0, 0, 200, 1), 0);
-        Expect.due("it changes nothing", countsOf(x), 1, 46, 4, 0, 40, 0, 1, 0, 0, 0, 0, 0, 11, 0, 4, 0);
+        Expect.due("it changes nothing", Laundries.counts(x), 1, 46, 4, 0, 40, 0, 1, 0, 0, 0, 0, 0, 11, 0, 4, 0);
         int[][] wrong = {{-1, 0, 1, 0}, {6, 0, 1, 0}, {0, -1, 1, 0}, {0, 6, 1, 0}, {0, 0, 0, 0}, {0, 0, 201, 0},
             {0, 0, 1, -1}, {0, 0, 1, 4}, {LOW, 0, 1, 0}, {0, HIGH, 1, 0}, {0, 0, HIGH, 0}, {0, 0, 1, HIGH}};
         for (int[] w : wrong) {
             due("ifFires of a wrong argument", x.ifFires(w[0], w[1], w[2], w[3]), -2);
         }
-        SteamRations spoils = withPressure11();
+        SteamRations spoils = Laundries.withPressure11();
         spoils.setFire(0, 4);
         spoils.start(0, 2);
         due("spoiled in 3 ticks", spoils.ifFires(0, 0, 3, 1), 0);
@@ -959,7 +866,7 @@ public final class PromiseTest {
         due("a spoiled one", spoils.count(9), 1);
         due("spoiled ones before do not count", spoils.ifFires(0, 0, 9, 1), 0);
         due("coal burnt before does not count", spoils.ifFires(1, 0, 9, 2), 9);
-        SteamRations stopped = withStop();
+        SteamRations stopped = Laundries.withStop();
         due("a stopped boiler burns nothing in its stop", stopped.ifFires(5, 0, 10, 2), 0);
         due("and then it does", stopped.ifFires(5, 0, 11, 2), 5);
         due("stops before do not count", stopped.ifFires(5, 0, 11, 3), 0);
@@ -976,7 +883,7 @@ public final class PromiseTest {
         x.queue(0);
         due("one wool, 4 ticks are too few", x.bestFires(4), 0);
         due("one wool, bestFires(5)", x.bestFires(5), bestOfAll(x, 5));
-        SteamRations y = withStop();
+        SteamRations y = Laundries.withStop();
         for (int i = 0; i < 12; i++) {
             y.queue(i % 3);
         }
@@ -997,7 +904,7 @@ public final class PromiseTest {
     }
 
     private static SteamRations withStopAndLine() {
-        SteamRations x = withStop();
+        SteamRations x = Laundries.withStop();
         for (int i = 0; i < 12; i++) {
             x.queue(i % 3);
         }
@@ -1037,8 +944,8 @@ public final class PromiseTest {
         x.start(1, 1);
         x.takeOut(0);
         x.run(55);
-        text(x, "l0");
-        int[] all = countsOf(x);
+        Laundries.text(x, "l0");
+        int[] all = Laundries.counts(x);
         due("ticks", all[0], 60);
         due("coal adds up", all[1], 50 + all[3] - all[2]);
         due("rations", all[3], 100);
